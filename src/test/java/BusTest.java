@@ -32,7 +32,7 @@ public final class BusTest {
     }
 
     private static void bus() {
-        IdeasDeck x = Due.busOf("bus 2; bridge 3 4; idea 0 5 0 9; idea 1 5 0 9; quarrel 0 1;");
+        IdeasDeck x = Due.busOf("bus 2; bridge 0 4; bridge 9 4; idea 0 5 0 9; idea 1 5 0 9; quarrel 0 1;");
         x.note(0, 0, 5, 3);
         x.drive(1);
         x.image(1);
@@ -134,6 +134,8 @@ public final class BusTest {
         DUE.is("6 of 2", x.of(2, 5), 1);
         DUE.is("6 who is up", x.then(0, 0), 3);
         DUE.is("6 peace", x.quarrel(2, 0, 0), 1);
+        DUE.is("6 peace for 0", x.of(0, 5), 0);
+        DUE.is("6 peace for 2", x.of(2, 5), 0);
         DUE.is("6 peace again", x.quarrel(0, 2, 0), 0);
         DUE.is("6 no pair", x.count(2), 0);
         int[][] bad = {{0, 0, 1}, {-1, 0, 1}, {0, -1, 1}, {3, 0, 1}, {0, 3, 1}, {0, 1, 2}, {0, 1, -1}};
@@ -190,7 +192,12 @@ public final class BusTest {
     }
 
     private static void readReplaces() {
-        IdeasDeck x = Due.busOf("bus 2; bridge 3 4; idea 0 5 0 9; idea 1 5 0 9; quarrel 0 1;");
+        IdeasDeck x = new IdeasDeck();
+        Due.tell(x, "bus 3; bridge 0 1; bridge 9 1;");
+        DUE.is("9 read a first time", x.read(), 3);
+        Due.tell(x, "bus 2; bridge 3 4; idea 0 5 0 9; idea 1 5 0 9; quarrel 0 1;");
+        DUE.is("9 read a second time", x.read(), 5);
+        DUE.is("9 the old bridges are gone", x.count(3), 1);
         x.note(0, 0, 5, 3);
         x.drive(2);
         x.image(0);
@@ -218,6 +225,11 @@ public final class BusTest {
         fault("bus 4 ", 6);
         fault("bu", 0);
         fault("buss 4;", 0);
+        fault("bas 4;", 0);
+        fault("cus 4;", 0);
+        fault("but 4;", 0);
+        fault("bus 4; idee 0 1 0 1;", 7);
+        fault("bus 4; quarral 0 1;", 7);
         fault("Bus 4;", 0);
         fault(" idea 0 1 0 1; bus 4;", 1);
         fault(";bus 4;", 0);

@@ -102,6 +102,9 @@ public final class RidersTest {
         // Idea 0 gets off at 3: idea 1 does well to get on there; 3 to 8 are alike.
         DUE.is("19 later", Due.busOf("bus 1; idea 0 1 0 3; idea 0 1 0 9;").better(), 13);
         DUE.is("19 before the off", Due.busOf("bus 1; idea 0 1 0 3; idea 0 1 0 3;").better(), IdeasDeck.NONE);
+        // Idea 1 is in the way of both others; idea 0 at stop 0 gets on ahead of it.
+        DUE.is("19 at stop 0", Due.busOf("bus 4; idea 0 1 1 9; idea 0 1 0 9; idea 0 1 2 9; quarrel 1 0; quarrel 1 2;")
+            .better(), 0);
         // Any place behind the bridge is as good: the least is told.
         DUE.is("19 behind the bridge", Due.busOf("bus 4; bridge 2 2; idea 0 1 0 9;").better(), 3);
         // Idea 2 has two in its way: that only one of them changes does not help.
@@ -126,6 +129,8 @@ public final class RidersTest {
         DUE.is("20 who is not scraped takes room",
             Due.busOf("bus 1; bridge 0 2; bridge 1 1; idea 0 1 0 9; idea 3 1 1 9;").raise(), 2);
         IdeasDeck x = Due.busOf("bus 1; bridge 0 1; idea 3 1 0 9;");
+        x.raise();
+        DUE.is("20 the bridges stay as they are", x.end(0), 1);
         x.drive(1);
         long before = x.digest();
         DUE.is("20 from stop 0 all the same", x.raise(), 4);

@@ -37,6 +37,9 @@ public final class StoreTest {
         long before = x.digest();
         x.bus(7);
         x.idea(3, 3, 3, 4);
+        x.note(0, 9, 8, 7);
+        x.drive(4);
+        x.drive(1);
         x.type('b');
         x.fare(7);
         x.bell(5);
@@ -47,6 +50,7 @@ public final class StoreTest {
         DUE.is("32 undo goes on", x.undo(), 1);
         DUE.is("32 put on again", x.now(1), 1);
         DUE.is("32 undo goes on", x.undo(), 0);
+        DUE.is("32 nobody up", x.now(1), 0);
         DUE.is("32 and ends", x.undo(), IdeasDeck.NO);
         DUE.is("32 from 0 once more", x.from(0), 1);
         DUE.is("32 as it was then", x.digest(), before);
