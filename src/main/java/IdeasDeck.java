@@ -401,8 +401,13 @@ public final class IdeasDeck {
     private static int bestLook(int kindBits, int feet) {
         if (kindBits == 0) return NONE;
         int best = 0;
+        int fewest = mostAlike(kindBits, feet, 0);
         for (int s = 1; s < STOPS; s++) {
-            if (mostAlike(kindBits, feet, s) < mostAlike(kindBits, feet, best)) best = s;
+            int most = mostAlike(kindBits, feet, s);
+            if (most < fewest) {
+                fewest = most;
+                best = s;
+            }
         }
         return best;
     }
@@ -899,7 +904,6 @@ public final class IdeasDeck {
         /** Whether it could be read: told is the bus then, else place is the fault. */
         boolean readBus() {
             told.startAnew();
-            items = 0;
             next = 0;
             step();
             if (!isWord("bus") || !readRoom()) return false;
