@@ -357,45 +357,30 @@ public final class IdeasDeck {
     // ---- kinds, each told by the one it is under
 
     private static int swayOf(int kind, int feet, int s) {
+        int plain = feet;
+        int economy = (plain + 1) / 2;
         switch (kind) {
-            case PLAIN: return plainSway(feet);
-            case ECONOMY: return economySway(feet);
-            case FEELING: return s % 2 == 1 ? 2 * plainSway(feet) : plainSway(feet);
-            case DOUBT: return plainSway(feet);
-            case REFORM: return economySway(feet) + 1;
+            case PLAIN: return plain;
+            case ECONOMY: return economy;
+            case FEELING: return s % 2 == 1 ? 2 * plain : plain;
+            case DOUBT: return plain;
+            case REFORM: return economy + 1;
             default: return 0;
         }
     }
 
-    private static int plainSway(int feet) {
-        return feet;
-    }
-
-    private static int economySway(int feet) {
-        return (plainSway(feet) + 1) / 2;
-    }
-
     private static int tallOf(int kind, int s) {
+        int plain = 3;
+        int economy = plain - 1;
+        int doubt = plain + 2;
         switch (kind) {
-            case PLAIN: return plainTall();
-            case ECONOMY: return economyTall();
-            case FEELING: return plainTall();
-            case DOUBT: return doubtTall();
-            case REFORM: return economyTall() + s / 3;
-            default: return doubtTall() - 1;
+            case PLAIN: return plain;
+            case ECONOMY: return economy;
+            case FEELING: return plain;
+            case DOUBT: return doubt;
+            case REFORM: return economy + s / 3;
+            default: return doubt - 1;
         }
-    }
-
-    private static int plainTall() {
-        return 3;
-    }
-
-    private static int economyTall() {
-        return plainTall() - 1;
-    }
-
-    private static int doubtTall() {
-        return plainTall() + 2;
     }
 
     private static int bestLook(int kindBits, int feet) {
@@ -505,7 +490,7 @@ public final class IdeasDeck {
         }
 
         boolean has(int i) {
-            return within(i, 0, ideas - 1);
+            return i >= 0 && i < ideas;
         }
 
         boolean hasTwo(int a, int b) {
@@ -679,12 +664,8 @@ public final class IdeasDeck {
             lift = 0;
         }
 
-        void passOne(Bus bus) {
-            bus.passStop(ride, boarding, lift);
-        }
-
         void passThrough(Bus bus, int lastPassed) {
-            for (int s = ride.stop; s <= lastPassed; s++) passOne(bus);
+            for (int s = ride.stop; s <= lastPassed; s++) bus.passStop(ride, boarding, lift);
         }
 
         private int missing() {
@@ -817,7 +798,7 @@ public final class IdeasDeck {
             int timesOfA = 0;
             int timesOfB = 0;
             for (int s = 0; s < STOPS; s++) {
-                journey.passOne(bus);
+                bus.passStop(journey.ride, journey.boarding, journey.lift);
                 timesOfA += bit(journey.ride.up, a);
                 timesOfB += bit(journey.ride.up, b);
             }
@@ -961,7 +942,9 @@ public final class IdeasDeck {
 
         private boolean readNumber(int least, int most) {
             step();
-            return token == NUMBER && within(number, least, most);
+            if (token != NUMBER) return false;
+            number = valueOfFigures();
+            return within(number, least, most);
         }
 
         private boolean readMark() {
@@ -979,18 +962,17 @@ public final class IdeasDeck {
 
         /** Goes to the next token. */
         private void step() {
-            place = endOfBlanks(next);
+            place = endOfRun(next, ' ', ' ');
             int first = byteAt(place);
             if (first == NONE) {
                 token = NOTHING;
                 next = place;
-            } else if (isLetter(first)) {
+            } else if (within(first, 'a', 'z')) {
                 token = WORD;
-                next = endOfLetters(place);
-            } else if (isFigure(first)) {
-                next = endOfFigures(place);
+                next = endOfRun(place, 'a', 'z');
+            } else if (within(first, '0', '9')) {
+                next = endOfRun(place, '0', '9');
                 token = next - place <= 2 ? NUMBER : WRONG;
-                number = token == NUMBER ? valueOfFigures() : NONE;
             } else {
                 token = first == ';' ? MARK : WRONG;
                 next = place + 1;
@@ -1003,37 +985,17 @@ public final class IdeasDeck {
             return value;
         }
 
-        private int endOfBlanks(int from) {
-            for (int at = from; at < length; at++) {
-                if (byteAt(at) != ' ') return at;
-            }
-            return length;
-        }
-
-        private int endOfLetters(int from) {
-            for (int at = from; at < length; at++) {
-                if (!isLetter(byteAt(at))) return at;
-            }
-            return length;
-        }
-
-        private int endOfFigures(int from) {
-            for (int at = from; at < length; at++) {
-                if (!isFigure(byteAt(at))) return at;
+        /** Where the bytes from a place on are no more of those told. */
+        private int endOfRun(int from, int least, int most) {
+            if (from < 0) return length;
+            for (int at = from; at < length && at < MOST_BYTES; at++) {
+                if (text[at] < least || text[at] > most) return at;
             }
             return length;
         }
 
         private int byteAt(int at) {
             return at >= 0 && at < length ? text[at] : NONE;
-        }
-
-        private static boolean isLetter(int c) {
-            return within(c, 'a', 'z');
-        }
-
-        private static boolean isFigure(int c) {
-            return within(c, '0', '9');
         }
     }
 }
