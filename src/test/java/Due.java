@@ -1,37 +1,66 @@
+import java.lang.reflect.InvocationTargetException;
+import java.lang.reflect.Method;
+import java.lang.reflect.Modifier;
+import java.util.Arrays;
+import java.util.Comparator;
+
 /** Collects the calls whose answer is not the one that is due. */
 final class Due {
-    private int wrong;
-    private int calls;
+    private static String test = "";
+    private static int wrong;
+    private static int calls;
+    private static int tests;
 
-    void is(String call, long got, long want) {
+    private Due() {
+    }
+
+    static void is(String call, long got, long want) {
         calls++;
-        if (got != want) {
-            wrong++;
-            System.out.println(call + " answered " + got + ", due is " + want);
+        if (got != want) fail(call + " answered " + got + ", due is " + want);
+    }
+
+    static void isTrue(String what, boolean holds) {
+        calls++;
+        if (!holds) fail(what + ": it is not so");
+    }
+
+    private static void fail(String what) {
+        wrong++;
+        System.out.println(test + what);
+    }
+
+    /** Runs each static method of a class that takes nothing, answers nothing and is not private: a test each. */
+    static void runTests(Class<?> of) {
+        Method[] methods = of.getDeclaredMethods();
+        Arrays.sort(methods, Comparator.comparing(Method::getName));
+        for (Method m : methods) {
+            boolean isTest = Modifier.isStatic(m.getModifiers()) && !Modifier.isPrivate(m.getModifiers())
+                && m.getParameterCount() == 0 && m.getReturnType() == void.class;
+            if (isTest) runTest(of, m);
         }
+        end();
     }
 
-    void isTrue(String what, boolean holds) {
-        is(what, holds ? 1 : 0, 1);
+    private static void runTest(Class<?> of, Method m) {
+        test = of.getName() + "." + m.getName() + ": ";
+        int before = calls;
+        tests++;
+        try {
+            m.invoke(null);
+            if (calls == before) fail("it tells nothing");
+        } catch (InvocationTargetException e) {
+            fail("threw " + e.getCause());
+        } catch (IllegalAccessException e) {
+            fail("can not be called");
+        }
+        test = "";
     }
 
-    /** Every test ends here: the exit code tells whether all was as due. */
-    void end() {
-        System.out.println(wrong == 0 ? calls + " answers are as due" : wrong + " answers are not as due");
+    /** Every test class ends here: the exit code tells whether all was as due. */
+    static void end() {
+        if (calls == 0) fail("nothing was told");
+        String many = tests == 0 ? calls + " answers" : tests + " tests, " + calls + " answers";
+        System.out.println(wrong == 0 ? many + " are as due" : wrong + " answers are not as due");
         if (wrong != 0) System.exit(1);
-    }
-
-    /** Puts a text in the place of the old one. */
-    static void tell(IdeasDeck x, String text) {
-        x.clear();
-        for (int i = 0; i < text.length(); i++) x.type(text.charAt(i));
-    }
-
-    static IdeasDeck busOf(String text) {
-        IdeasDeck x = new IdeasDeck();
-        tell(x, text);
-        if (x.read() < 0) throw new IllegalStateException("a test's own text can not be read: " + text);
-        x.clear();
-        return x;
     }
 }
