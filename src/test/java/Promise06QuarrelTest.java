@@ -59,6 +59,21 @@ public final class Promise06QuarrelTest {
         Due.is("no pair", x.count(2), 0);
     }
 
+    static void peaceHoldsBothWaysWhoeverIsToldFirst() {
+        for (int a = 0; a < 7; a++) {
+            for (int b = 0; b < 7; b++) {
+                if (a == b) continue;
+                IdeasDeck x = Buses.full();
+                x.quarrel(b, a, 1);
+                Due.is("they quarrel: " + a, x.of(a, 5), 1 << b);
+                Due.is("they quarrel: " + b, x.of(b, 5), 1 << a);
+                Due.is("they did", x.quarrel(a, b, 0), 1);
+                Due.is("peace: " + a, x.of(a, 5), 0);
+                Due.is("peace: " + b, x.of(b, 5), 0);
+            }
+        }
+    }
+
     static void peaceLeavesOtherQuarrels() {
         IdeasDeck x = Buses.of("bus 4; idea 0 1 0 9; idea 0 2 0 9; idea 0 3 0 9; quarrel 0 1; quarrel 0 2; quarrel 1 2;");
         x.quarrel(0, 1, 0);

@@ -233,6 +233,16 @@ public final class Promise09ReadTest {
         fault("bus 4; quarrels 0 1;", 7);
     }
 
+    static void aWordWithALetterTooMany() {
+        for (char c = 'a'; c <= 'z'; c++) {
+            fault("bus" + c + " 4;", 0);
+            fault(c + "bus 4;", 0);
+            fault("bus 4; bridge" + c + " 0 1;", 7);
+            fault("bus 4; idea" + c + " 0 1 0 1;", 7);
+            fault("bus 4;idea 0 1 0 1;idea 0 1 0 1; quarrel" + c + " 0 1;", 33);
+        }
+    }
+
     static void aWordWhereANumberIsDue() {
         fault("bus four;", 4);
         fault("bus bus 4;", 4);

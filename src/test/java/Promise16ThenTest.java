@@ -48,6 +48,13 @@ public final class Promise16ThenTest {
         }
     }
 
+    static void sevenIdeasEachAtItsStop() {
+        IdeasDeck x = new IdeasDeck();
+        x.bus(7);
+        for (int i = 0; i < 7; i++) x.idea(0, 1, i + 1, 9);
+        for (int s = 0; s <= 8; s++) Due.is("up behind " + s, x.then(s, 0), (1 << Math.min(s, 7)) - 1);
+    }
+
     static void nothingIsChanged() {
         Calls.asks("then(9, 0)", Buses::rich, 0, x -> x.then(9, 0));
         Calls.asks("then(3, 0)", Buses::rich, 9, x -> x.then(3, 0));

@@ -48,6 +48,14 @@ public final class Promise19BetterTest {
         better("bus 4; idea 0 1 2 3; idea 0 1 3 4; idea 0 1 0 9; quarrel 2 0; quarrel 2 1;", 24);
     }
 
+    static void theSeventhIdea() {
+        IdeasDeck x = new IdeasDeck();
+        x.bus(6);
+        for (int i = 0; i < 6; i++) x.idea(0, 1, 0, 8);
+        x.idea(0, 1, 0, 9);
+        Due.is("better()", x.better(), 68);
+    }
+
     static void scrapedCountsAsLeft() {
         // One who is no longer left but scraped is none fewer.
         better("bus 1; bridge 5 1; idea 0 1 0 5; idea 0 1 3 6;", IdeasDeck.NONE);

@@ -60,6 +60,10 @@ public final class Promise27TwoTest {
     static void aBridgeToComeBehind() {
         // The doubt comes behind it, and stays for 1 and 2.
         resting("bus 4; bridge 0 4; idea 3 1 0 3; idea 0 1 0 1;", 0, 1, 10);
+        // The plain one passes it, so it comes at 0 all the same.
+        resting("bus 4; bridge 0 4; idea 3 1 0 3; idea 0 1 0 3;", 0, 1, 10);
+        resting("bus 4; bridge 0 4; idea 3 1 0 3; idea 0 1 0 3;", 1, 0, 1);
+        resting("bus 4; bridge 2 4; idea 3 1 0 9; idea 0 1 0 9;", 0, 1, 30);
     }
 
     static void whereNothingHelpsEveryPairRests() {

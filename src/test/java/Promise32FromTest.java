@@ -46,6 +46,30 @@ public final class Promise32FromTest {
         }
     }
 
+    static void keepsAsMuchAsCanBe() {
+        for (int i = 0; i <= 1; i++) {
+            IdeasDeck x = asMuchAsCanBe();
+            x.image(i);
+            changeAll(x);
+            Due.is("from(" + i + ")", x.from(i), 1);
+            IdeasDeck y = asMuchAsCanBe();
+            y.image(i);
+            Due.isTrue("as it was", Probe.of(x).equals(Probe.of(y)));
+        }
+    }
+
+    /** Seven ideas, all quarrelling, a bridge behind each stop, six notes, eight that may be undone. */
+    private static IdeasDeck asMuchAsCanBe() {
+        IdeasDeck x = new IdeasDeck();
+        for (int k = 0; k < 7; k++) x.idea(k % 6, k + 3, 6 - k, 9 - k / 2);
+        for (int s = 0; s <= 9; s++) x.bridge(s, 9 - s % 9);
+        for (int b = 0; b < 6; b++) x.quarrel(6, b, 1);
+        for (int n = 0; n < 6; n++) x.note(6 - n, n, 10 + n, 9 - n);
+        x.drive(2);
+        for (int n = 0; n < 8; n++) x.drive(1);
+        return x;
+    }
+
     private static void changeAll(IdeasDeck x) {
         x.bus(7);
         for (int s = 0; s <= 9; s++) x.bridge(s, 1 + s % 9);
