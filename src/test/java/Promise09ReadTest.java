@@ -254,6 +254,13 @@ public final class Promise09ReadTest {
         fault("bus 4;idea 0 1 0 1;quarrel 0 x;", 29);
     }
 
+    static void figuresOrLettersThatWouldWrapAround() {
+        // Each would be 4, counted as figures in 32 bits.
+        fault("bus 4294967300;", 4);
+        fault("bus 18446744073709551620;", 4);
+        fault("bus vicvqqefoztur;", 4);
+    }
+
     static void aWordWhereTheItemEnds() {
         fault("bus 4 bridge 0 1;", 6);
         fault("bus 4bridge 0 1;", 5);
