@@ -34,6 +34,18 @@ import javax.tools.ToolProvider;
 public final class LanguageTest extends TreePathScanner<Void, Void> {
     private static final int MOST_PARAMETERS = 7, MOST_LINES = 60, MOST_DEEP = 8, MOST_CLASSES = 12, MOST_FIELDS = 20;
 
+    /** Rule 4: what may be called of each class of the library. */
+    private static final Map<String, String> LIBRARY = Map.of(
+        "java.lang.String", "length|charAt|isEmpty|equals|indexOf|substring|toCharArray",
+        "java.lang.StringBuilder", "append|charAt|setCharAt|setLength|deleteCharAt|reverse|length|toString",
+        "java.lang.System", "arraycopy",
+        "java.lang.Math", "(?!.*Exact|random).*",
+        "java.lang.Integer", "(?!.*Exact|get|parse|decode).*",
+        "java.lang.Long", "(?!.*Exact|get|parse|decode).*",
+        "java.util.Arrays", "copyOf|copyOfRange|fill",
+        "java.util.ArrayList", "add|get|set|remove|size|isEmpty|clear",
+        "java.util.List", "add|get|set|remove|size|isEmpty|clear|of");
+
     private final CompilationUnitTree unit;
     private final Trees trees;
     private final Map<Element, Set<Element>> calls = new LinkedHashMap<>();
@@ -137,8 +149,10 @@ public final class LanguageTest extends TreePathScanner<Void, Void> {
             }
         }
         Due.isTrue("rule 11: some twenty fields in " + it, fields <= MOST_FIELDS);
-        if (it.getEnclosingElement().getKind() != ElementKind.PACKAGE) {
+        Element outside = it.getEnclosingElement();
+        if (outside.getKind() != ElementKind.PACKAGE) {
             Due.isTrue("rule 2: " + it + " is static", it.getModifiers().contains(Modifier.STATIC));
+            Due.isTrue("rule 2: " + it + " is not local", outside.getKind().isClass());
         }
         return super.visitClass(tree, none);
     }
@@ -183,12 +197,12 @@ public final class LanguageTest extends TreePathScanner<Void, Void> {
     }
 
     private void library(Element called) {
-        String of = String.valueOf(called.getEnclosingElement());
+        String of = String.valueOf(called.getEnclosingElement()).replaceAll("<.*", "");
         String name = called.getSimpleName().toString();
-        if (of.equals("java.lang.System")) Due.is("rule 4: System." + name, name.equals("arraycopy") ? 1 : 0, 1);
-        if (of.matches("java\\.lang\\.(Math|Integer|Long)")) {
-            Due.isTrue("rule 4: " + of + "." + name, !name.endsWith("Exact") && !name.equals("random"));
-        }
+        boolean isOwn = of.matches("IdeasDeck(\\..*)?");
+        boolean isImplied = of.equals("java.lang.Object") && name.equals("<init>");
+        if (isOwn || isImplied) return;
+        Due.isTrue("rule 4: " + of + "." + name, name.matches(LIBRARY.getOrDefault(of, "none")));
     }
 
     private void plainSigns() throws Exception {
